@@ -854,21 +854,17 @@ public final class InkHours {
             } else if (kind == NO) {
                 turned = !turned;
             } else if (joins) {
-                takeJoin(kind);
+                if (kind == OR) {
+                    ored |= anded;
+                    anded = ALL_TRUTHS;
+                }
+                wantsLetter = true;
             } else {
                 int truths = TRUTHS_OF_LETTER[letter];
                 anded &= turned ? ALL_TRUTHS ^ truths : truths;
                 turned = false;
                 wantsLetter = false;
             }
-        }
-
-        private void takeJoin(int kind) {
-            if (kind == OR) {
-                ored |= anded;
-                anded = ALL_TRUTHS;
-            }
-            wantsLetter = true;
         }
 
         int meaning() {
@@ -1128,28 +1124,14 @@ public final class InkHours {
                 start++;
             }
             end = start;
-            if (start >= size) {
-                token = END;
-            } else if (isSmallLetter(bytes[start])) {
-                passName();
-            } else if (isDigit(bytes[start])) {
-                passNumber();
-            } else {
-                token = bytes[start] == ';' ? SEMICOLON : STRANGE;
-                end = start + 1;
-            }
-        }
-
-        private void passName() {
-            token = NAME;
+            number = 0;
             while (end < size && isSmallLetter(bytes[end])) {
                 end++;
             }
-        }
-
-        private void passNumber() {
-            token = NUMBER;
-            number = 0;
+            if (end > start) {
+                token = NAME;
+                return;
+            }
             while (end < size && isDigit(bytes[end])) {
                 // Above 9999 it is no number that is allowed, however it goes on: it need not grow.
                 if (number <= 9999) {
@@ -1157,14 +1139,22 @@ public final class InkHours {
                 }
                 end++;
             }
+            if (end > start) {
+                token = NUMBER;
+            } else if (start >= size) {
+                token = END;
+            } else {
+                token = bytes[start] == ';' ? SEMICOLON : STRANGE;
+                end = start + 1;
+            }
         }
 
         private static boolean isSmallLetter(int v) {
-            return within(v, 'a', 'z');
+            return v >= 'a' && v <= 'z';
         }
 
         private static boolean isDigit(int v) {
-            return within(v, '0', '9');
+            return v >= '0' && v <= '9';
         }
 
         boolean isName(String name) {
@@ -1181,8 +1171,10 @@ public final class InkHours {
 
         /** 0 to 3, if the token is one of a to d, else -1. */
         int letter() {
-            boolean is = token == NAME && end - start == 1 && isLetter(bytes[start] - 'a');
-            return is ? bytes[start] - 'a' : -1;
+            if (token != NAME || end - start != 1 || bytes[start] > 'd') {
+                return -1;
+            }
+            return bytes[start] - 'a';
         }
     }
 

@@ -47,6 +47,8 @@ public final class ForgingDatingTest {
         due.is("25: that of now", x.forge(2, Due.ALL ^ Due.A), Due.NONE);
         due.is("25: a no behind a join", of("on 0 b and a").forge(0, Due.B & ~Due.A), 220);
         due.is("25: nothing is written", x.count(1), 6);
+        due.is("25: never true", of("on 0 a and not").forge(0, 0), 310);
+        due.is("25: ever true", of("on 0 a or not").forge(0, Due.ALL), 310);
         due.is("25: wrong", x.forge(0, -1), Due.BEYOND);
         due.is("25: wrong", x.forge(0, -2), Due.BEYOND);
         due.is("25: wrong", x.forge(0, 65536), Due.BEYOND);
@@ -111,6 +113,10 @@ public final class ForgingDatingTest {
         due.is("28: its ink too", x.markOf(1, 1, 2), 0);
         due.is("28: copied", x.markOf(1, 2, 3), 7);
         due.is("28: in the ink", x.markOf(1, 2, 2), 4);
+        x.seed(1);
+        due.is("28: the third one twice", x.clerk(1, 2, 6), 1);
+        due.is("28: the third one", x.markOf(1, 2, 2), 6);
+        due.is("28: not the first one", x.markOf(1, 0, 2), 4);
         due.is("28: one again and again", x.clerk(2, 12, 7), 1);
         int z = x.count(5);
         due.is("28: none there", x.clerk(0, 1, 0), Due.STATE);

@@ -149,9 +149,26 @@ public final class HoursInksPapersTest {
         due.is("8: wrong", x.scratch(0, -1), Due.BEYOND);
         due.is("8: wrong", x.scratch(4, 0), Due.BEYOND);
         due.is("8: wrong", x.scratch(-1, 0), Due.BEYOND);
+        rowsComeAhead();
         for (int left = 2; left >= 0; left--) due.is("8: to the last", x.scratch(0, left), left);
         due.is("8: none left", x.scratch(0, 0), Due.BEYOND);
         due.is("8: count(6)", x.count(6), 1);
+    }
+
+    private static void rowsComeAhead() {
+        InkHours x = new InkHours();
+        for (int i = 0; i < 12; i++) {
+            x.write(0, i % 7, i % 4, i % 8);
+            x.hours(1);
+        }
+        due.is("8: the third of twelve", x.scratch(0, 2), 11);
+        for (int i = 0; i < 11; i++) {
+            int was = i < 2 ? i : i + 1;
+            due.is("8: kind of " + i, x.markOf(0, i, 0), was % 7);
+            due.is("8: letter of " + i, x.markOf(0, i, 1), was % 4);
+            due.is("8: ink of " + i, x.markOf(0, i, 2), was % 8);
+            due.is("8: at of " + i, x.markOf(0, i, 3), was);
+        }
     }
 
     private static void copied() {

@@ -64,6 +64,9 @@ public final class InksAndCopiesTest {
         for (int i = 3; i < 8; i++) y.ink(i, 1, 50);
         due.is("21: both go at once", y.cheapest(0, 1, 2, 10), 22);
         due.is("21: the other word is left", y.cheapest(0, 0, 1, 23), 22);
+        for (int i = 0; i < 8; i++) y.ink(i, 1, 99);
+        due.is("21: dearest", y.cheapest(0, 0, 2, 30), 0);
+        due.is("21: dearest", y.cheapest(0, 0, 2, 3), 0);
         // No meaning is one that can stay, too.
         InkHours z = of("ink 0 lasts 9;ink 1 lasts 3 price 0;on 0 a a");
         due.is("21: no meaning stays", z.cheapest(0, 0, 1, 30), 11);
@@ -88,6 +91,11 @@ public final class InksAndCopiesTest {
         due.is("22: all", x.fewest(0, 1, 29), 31);
         due.is("22: none will do", x.fewest(0, 1, 30), Due.NONE);
         due.is("22: nor will this ink", x.fewest(0, 0, 5), Due.NONE);
+        due.is("22: only now", x.fewest(0, 0, 0), 0);
+        InkHours all = of("ink 0 lasts 5;ink 1 lasts 30;on 0 not a and b or not b and c and not d");
+        due.is("22: all of twelve", all.fewest(0, 1, 6), 4095);
+        all = of("ink 0 lasts 5;ink 1 lasts 30;on 0 not not not not not not not not not not not a");
+        due.is("22: one no of eleven", all.fewest(0, 1, 6), 2049);
         InkHours y = of("ink 0 lasts 5;ink 1 lasts 30;on 0 a or a or a blot");
         due.is("22: of several the least", y.fewest(0, 1, 10), 1);
         y.hours(3);
@@ -131,8 +139,9 @@ public final class InksAndCopiesTest {
         InkHours z = of("ink 0 lasts 900;on 0 a");
         for (int i = 0; i < 9; i++) z.hours(99);
         due.is("23: of old ones", z.lasting(0, 0, 100), 992);
-        z.ink(0, 0, 901);
         z.hours(8);
+        z.ink(0, 0, 999);
+        due.is("23: 999 will do", z.lasting(0, 0, 99), 999);
         due.is("23: 999 at most", z.lasting(0, 0, 100), Due.NONE);
     }
 

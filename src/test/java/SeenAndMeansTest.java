@@ -138,6 +138,17 @@ public final class SeenAndMeansTest {
         return x;
     }
 
+    /** At 0 it is a; eleven noes come at 1 to 11 and go at 25 to 35; a goes at 100. */
+    private static InkHours flickering() {
+        InkHours x = new InkHours();
+        Due.read(x, "ink 1 lasts 100;on 0 not not not not not not not not not not not;on 0 ink 1 a");
+        for (int i = 0; i < 11; i++) {
+            x.hours(1);
+            x.copied(0, i, 0);
+        }
+        return x;
+    }
+
     private static void until() {
         InkHours x = fading();
         due.is("15: until", x.until(0), 13);
@@ -173,6 +184,7 @@ public final class SeenAndMeansTest {
         due.is("16: both", x.changes(0, 11, 34), 2);
         due.is("16: behind all", x.changes(0, 34, 9999), 0);
         due.is("16: nothing changes", x.changes(1, 0, 9999), 0);
+        due.is("16: many", flickering().changes(0, 0, 9999), 23);
         due.is("16: the same hour", x.changes(0, 5, 5), Due.BEYOND);
         due.is("16: backwards", x.changes(0, 6, 5), Due.BEYOND);
         due.is("16: wrong", x.changes(0, -1, 5), Due.BEYOND);
@@ -197,6 +209,16 @@ public final class SeenAndMeansTest {
         due.is("17: gone by", x.shows(0, Due.ALL ^ Due.A), Due.NONE);
         due.is("17: from now on", x.shows(0, Due.A), 15);
         due.is("18: from now on", x.often(0, Due.A), 19);
+        InkHours y = new InkHours();
+        for (int i = 0; i < 9; i++) y.hours(1000);
+        Due.read(y, "ink 0 lasts 999;on 0 a");
+        due.is("17: at 9999", y.shows(0, -1), 9999);
+        due.is("18: up to 9999", y.often(0, Due.A), 999);
+        due.is("18: at 9999", y.often(0, -1), 1);
+        y.hours(999);
+        due.is("17: now is 9999", y.shows(0, -1), 9999);
+        due.is("17: and no hour behind it", y.shows(0, Due.A), Due.NONE);
+        due.is("18: now is 9999", y.often(0, -1), 1);
         int[][] wrong = {{4, 0}, {-1, 0}, {0, -2}, {0, 65536}};
         for (int[] w : wrong) {
             due.is("17: wrong", x.shows(w[0], w[1]), Due.BEYOND);

@@ -67,6 +67,9 @@ public final class SpotsSheetsTest {
         due.is("35: anew", x.sheet(0, 8, 40), 40);
         x.sheet(3, 8, 1);
         holds(x, 0, 39, 0, "35: all are 0");
+        x.put(0, 0, -1);
+        x.sheet(0, 8, 40);
+        holds(x, 0, 0, 0, "35: all are 0");
         due.is("35: missing", x.sheet(0, 0, 40), 0);
         due.is("35: it is", x.put(0, 0, 0), Due.MISSING);
         due.is("35: shorter", x.sheet(0, 8, 2), 2);

@@ -89,7 +89,7 @@ public final class TextsTest {
             "on 1 bold", "on 1 a faint", "on 1 a;", "paper 1 dark ; ", "  ", "on 1  ", "ink 1 lasts 5;"};
         for (String s : ends) due.is("32: ends too early: ".concat(s), text(s), -1 - s.length());
         // The fault is where the sign ! stands in what is written here.
-        String[] wrong = {"!;", "!a", "!5", "!lasts", "!inks 1 lasts 5", "!Ink", "ink !lasts", "ink !8 lasts 5", "ink !-1", "ink 1 !5", "ink 1 !price 5",
+        String[] wrong = {"!;", "!a", "!5", "!lasts", "!inks 1 lasts 5", "!Ink", "!xnk 1 lasts 5", "!in", "!xaper 0 dark", "!xn 0 a", "ink 1 !xasts 5", "on 0 !xot", "ink !lasts", "ink !8 lasts 5", "ink !-1", "ink 1 !5", "ink 1 !price 5",
             "ink 1 lasts !0", "ink 1 lasts !1000", "ink 1 lasts !price", "ink 1 lasts 5 !5", "ink 1 lasts 5 price !100", "ink 1 lasts 5 price 5 !price 5",
             "ink 1 lasts 5 !lasts 6", "paper !4 light", "paper 0 !red", "paper 0 !;", "paper 0 light !dark", "paper !light", "on !4 a", "on !a", "on 0 !;",
             "on 0 ink !8 a", "on 0 ink !a", "on 0 ink 1 !ink 1 a", "on 0 a !ink 1", "on 0 a !1", "on 0 !e", "on 0 !aa", "on 0 a !light", "on 0 bold !and",
@@ -115,6 +115,14 @@ public final class TextsTest {
         StringBuilder s = new StringBuilder("on 0");
         while (s.length() < 119) s.append(' ');
         due.is("32: 120 bytes", text(s.append('d').toString()), 1);
+        s.setLength(0);
+        while (s.length() < 108) s.append(' ');
+        due.is("32: 120 bytes with a number last", text(s.append("ink 1lasts 9").toString()), 1);
+        s.setLength(0);
+        while (s.length() < 120) s.append("on0a;");
+        due.is("32: a 13th by many items", text(s.toString()), -64);
+        due.is("32: 12 items", text(s.substring(0, 59)), 12);
+        due.is("32: ink 7", text("on 0 ink 7 a"), 1);
         InkHours x = new InkHours();
         Due.read(x, "on 4 a");
         due.is("32: a fault empties the tape", x.count(4), 0);
