@@ -8,6 +8,7 @@ public final class InksAndCopiesTest {
         cheapestWrong();
         fewest();
         lasting();
+        manySteps();
         lastHours();
         due.end();
     }
@@ -115,6 +116,19 @@ public final class InksAndCopiesTest {
             due.is("22: wrong", v.fewest(k[0], k[1], k[2]), Due.BEYOND);
             due.is("23: wrong", v.lasting(k[0], k[1], k[2]), Due.BEYOND);
         }
+    }
+
+    /** Eleven blots go at 25 to 35 (copied at 41), a at 50 (copied at 71): more hours to look at than marks. */
+    private static void manySteps() {
+        InkHours x = of("ink 1 lasts 25;ink 2 lasts 30;on 0 blot blot blot blot blot blot blot blot blot blot blot;on 0 ink 1 bold a");
+        for (int i = 0; i < 11; i++) {
+            x.hours(1);
+            x.copied(0, i, 0);
+        }
+        due.is("22: up to 49", x.fewest(0, 2, 38), 0);
+        due.is("22: from 50 on a copy of a", x.fewest(0, 2, 39), 2048);
+        due.is("22: up to 70", x.fewest(0, 2, 59), 2048);
+        due.is("22: then it is gone, too", x.fewest(0, 2, 60), Due.NONE);
     }
 
     private static void lasting() {

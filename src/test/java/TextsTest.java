@@ -92,7 +92,7 @@ public final class TextsTest {
         String[] wrong = {"!;", "!a", "!5", "!lasts", "!inks 1 lasts 5", "!Ink", "!xnk 1 lasts 5", "!in", "!xaper 0 dark", "!xn 0 a", "ink 1 !xasts 5", "on 0 !xot", "ink !lasts", "ink !8 lasts 5", "ink !-1", "ink 1 !5", "ink 1 !price 5",
             "ink 1 lasts !0", "ink 1 lasts !1000", "ink 1 lasts !price", "ink 1 lasts 5 !5", "ink 1 lasts 5 price !100", "ink 1 lasts 5 price 5 !price 5",
             "ink 1 lasts 5 !lasts 6", "paper !4 light", "paper 0 !red", "paper 0 !;", "paper 0 light !dark", "paper !light", "on !4 a", "on !a", "on 0 !;",
-            "on 0 ink !8 a", "on 0 ink !a", "on 0 ink 1 !ink 1 a", "on 0 a !ink 1", "on 0 a !1", "on 0 !e", "on 0 !aa", "on 0 a !light", "on 0 bold !and",
+            "on 0 ink !8 a", "on 0 ink !a", "on 0 ink 1 !ink 1 a", "on 0 a !ink 1", "on 0 a !1", "on 0 !e", "on 0 !aa", "on 0 !az", "on 0 !za", "on 0 a !light", "on 0 bold !and",
             "on 0 bold !bold a", "on 0 faint !;", "on 0 bold !1", "on 0 bold !blot", "on 0 a;!;", "on 0 a;!a", "on 0 a; !5", "on 0 a !on 1 a", "on 0 a !A",
             "on 0 !.", "on 0 a ; ink 1 lasts 5;!x", "on 0 a!-", "on!\t0 a", "on 0 a !\u00ff", "!\u0000"};
         for (String s : wrong) {
