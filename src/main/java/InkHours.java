@@ -965,9 +965,11 @@ public final class InkHours {
             return changeBehind(hour, last) > last;
         }
 
+        /** How many hours, both ends counted, have another meaning than the hour ahead of them. */
         int changesWithin(int from, int to) {
             int found = 0;
-            int hour = changeBehind(from, to);
+            // The first hour counts as well, so the one ahead of it is looked at; ahead of 0 there is none.
+            int hour = changeBehind(Math.max(0, from - 1), to);
             for (int i = 0; i < MOST_STEPS && hour <= to; i++) {
                 found++;
                 hour = changeBehind(hour, to);

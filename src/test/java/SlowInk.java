@@ -203,7 +203,7 @@ final class SlowInk {
     int changes(int p, int from, int to) {
         if (!paper(p) || !hour(from) || !hour(to) || to <= from) return f(BEYOND);
         int n = 0;
-        for (int h = from + 1; h <= to; h++) if (meaning(p, h) != meaning(p, h - 1)) n++;
+        for (int h = from; h <= to; h++) if (h > 0 && meaning(p, h) != meaning(p, h - 1)) n++;
         return n;
     }
     int shows(int p, int m) {
