@@ -293,7 +293,7 @@ public final class InkHours {
         for (int place = 0; place <= world.papers[paper].size; place++) {
             for (int choice = 0; choice < MORE_CHOICES; choice++) {
                 int meaning = course.meaningWith(set, place, choice);
-                if (meaning != NO_MEANING && !isAmong(forgeries, found, meaning)) {
+                if (meaning != NO_MEANING && found < MOST_FORGED && !isAmong(forgeries, found, meaning)) {
                     forgeries[found] = meaning;
                     found++;
                 }
